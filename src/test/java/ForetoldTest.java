@@ -148,6 +148,13 @@ final class ForetoldTest {
         check.due("smoke at 0 and gossip at 1", x.water(0, 1) + x.water(1, 0) + x.water(2, 0), 64 + 32 + 16);
         check.due("now: two miles", x.stands(3, 0), 3);
         check.due("in one: mile 1 alone", x.stands(3, 1), 1);
+        CloudLaundry z = Texts.told("white 9 9;bride 9 9;stain 0 0 1;stain 0 1 1;stain 1 0 1;stain 1 1 2;washer 2;eye 16");
+        z.wash(0, 0);
+        z.hour(1);
+        z.hang(0);
+        z.wash(0, 1);
+        z.hour(2);
+        check.due("mile 2 alone ahead of miles 0 and 1", z.stands(3, 0), 4);
         CloudLaundry y = Texts.told("white 50 6;stain 0 0 1;stain 0 1 2;washer 1;eye 16");
         y.wash(0, 0);
         y.hour(2);

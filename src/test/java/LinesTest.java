@@ -198,9 +198,10 @@ final class LinesTest {
         check.due("drop(-1)", x.drop(-1), CloudLaundry.UNKNOWN);
         check.due("drop(0)", x.drop(0), CloudLaundry.NULL);
         x.line(0, 0, 4);
+        x.pin(0, 0, 0, 1);
         x.pin(0, 1, 0, 0);
         x.pin(0, 3, 1, 0);
-        check.due("drop(0)", x.drop(0), 2);
+        check.due("drop(0)", x.drop(0), 3);
         check.due("drop(0) again", x.drop(0), CloudLaundry.NULL);
         check.due("lines", x.count(9), 0);
         x.line(0, 0, 4);

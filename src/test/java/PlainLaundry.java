@@ -13,7 +13,8 @@ import java.util.regex.Pattern;
  * hours are lived through one by one. ModelTest runs it beside the class. The names are the class's.
  */
 public final class PlainLaundry {
-    private static final int NONE = -1, UNKNOWN = -2, OUTSIDE = -3, NOT = -4, FULL = -5, NULL = -11, INDEX = -12, STORE = -13, CAST = -14,
+    static final int NONE = -1;
+    private static final int UNKNOWN = -2, OUTSIDE = -3, NOT = -4, FULL = -5, NULL = -11, INDEX = -12, STORE = -13, CAST = -14,
         EMPTY = -15, SIZE = -16;
     private static final List<String> KINDS = List.of("white", "thunder", "fog", "bride");
     private static final Pattern TOKEN = Pattern.compile("[a-z]+|[0-9]+|[^ ]", Pattern.DOTALL);

@@ -78,6 +78,9 @@ final class TextTest {
         fault(check, "summers", 0);
         fault(check, "summe", 0);
         fault(check, "sum mer", 0);
+        fault(check, "rummer", 0);
+        fault(check, "eyez 3", 0);
+        fault(check, "eye 3a", 5);
         fault(check, "summer.", 6);
         fault(check, "\tsummer", 0);
         fault(check, "eye 3\u00e9", 5);

@@ -154,7 +154,10 @@ final class UndoTest {
         check.due("lines stay", x.sum(0), 100_003);
         check.due("seen stays", x.count(8), 1);
         check.due("the text is as it was kept", x.count(11), 2);
+        x.erase();
+        Texts.write(x, "soap 9");
+        x.back(0);
         Texts.write(x, "e 9");
-        check.due("fault()", x.fault(), CloudLaundry.NONE);
+        check.due("its letters too", x.fault(), CloudLaundry.NONE);
     }
 }
