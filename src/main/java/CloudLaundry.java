@@ -336,7 +336,7 @@ public final class CloudLaundry {
             return UNKNOWN;
         }
         int gold = 0;
-        for (int i = 0; i < day.cloudCount; i++) {
+        for (int i = 0; i < day.cloudCount && i < CLOUDS; i++) {
             if ((clouds >> i & 1) == 1) {
                 gold += day.clouds[i].deep[GOLD];
             }
@@ -510,7 +510,7 @@ public final class CloudLaundry {
             return NULL;
         }
         int all = 0;
-        for (int i = 0; i < one.pegs; i++) {
+        for (int i = 0; i < one.pegs && i < PEGS; i++) {
             if (one.things[i] == A_NOTE) {
                 all += one.values[i];
             } else if (one.things[i] == A_CLOUD) {

@@ -15,6 +15,13 @@ public final class AllTests {
         SeenTest.run(check);
         LinesTest.run(check);
         CountTest.run(check);
+        BoundsTest.run(check);
+        RefusedTest.run(check);
+        TextEdgesTest.run(check);
+        HourEdgesTest.run(check);
+        UndoEdgesTest.run(check);
+        ForetoldEdgesTest.run(check);
+        LineEdgesTest.run(check);
         WildTest.run(check);
         ModelTest.run(check);
         System.out.println(check.right() + " answers as due, " + check.wrong() + " not");

@@ -4,7 +4,7 @@ import java.util.Comparator;
 import java.util.List;
 import java.util.Random;
 
-/** No call throws or changes anything when it is refused, whatever its arguments. */
+/** No call throws, whatever its arguments, in whatever state. */
 final class WildTest {
     private static final int[] WILD = {Integer.MIN_VALUE, Integer.MIN_VALUE + 1, -65536, -12, -1, 0, 1, 2, 7, 16, 31, 32, 63, 64, 65535,
         Integer.MAX_VALUE - 1, Integer.MAX_VALUE};
