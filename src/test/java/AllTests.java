@@ -23,6 +23,7 @@ public final class AllTests {
         ForetoldEdgesTest.run(check);
         LineEdgesTest.run(check);
         WildTest.run(check);
+        RoomTest.run(check);
         ModelTest.run(check);
         System.out.println(check.right() + " answers as due, " + check.wrong() + " not");
         if (check.wrong() != 0) {
