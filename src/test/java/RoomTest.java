@@ -1,7 +1,6 @@
-import com.sun.management.ThreadMXBean;
-import java.lang.management.ManagementFactory;
 import java.lang.reflect.Array;
 import java.lang.reflect.Field;
+import java.lang.reflect.Method;
 import java.lang.reflect.Modifier;
 import java.util.ArrayDeque;
 import java.util.Collections;
@@ -11,7 +10,8 @@ import java.util.Set;
 
 /** The room of a run: an object is small, and its calls make nothing more, however often they are made. */
 final class RoomTest {
-    private static final int ROUNDS = 300;
+    private static final int ROUNDS = 1000;
+    private static final int LEAST_OBJECT = 16;
     private static final int MOST_OBJECTS = 1000, MOST_ELEMENTS = 10_000;
 
     private RoomTest() {
@@ -65,17 +65,31 @@ final class RoomTest {
         return fields;
     }
 
-    private static void ofCalls(Check check) {
-        ThreadMXBean thread = (ThreadMXBean) ManagementFactory.getThreadMXBean();
+    /** Of a Java without this counter nothing is asked. */
+    private static Method bytesMade() throws Exception {
+        try {
+            return Class.forName("com.sun.management.ThreadMXBean").getMethod("getCurrentThreadAllocatedBytes");
+        } catch (ClassNotFoundException | NoSuchMethodException none) {
+            return null;
+        }
+    }
+
+    private static void ofCalls(Check check) throws Exception {
+        Method bytes = bytesMade();
+        if (bytes == null) {
+            return;
+        }
+        Object thread = Class.forName("java.lang.management.ManagementFactory").getMethod("getThreadMXBean").invoke(null);
+        bytes.invoke(thread);
         CloudLaundry x = new CloudLaundry();
         char[] text = "summer;white 20 6;fog 9 4;bride 9 9;stain 0 0 5;stain 1 5 2;stain 2 3 9;washer 2;washer 3;soap 5;eye 9".toCharArray();
         everyCall(x, text);
-        long before = thread.getCurrentThreadAllocatedBytes();
+        long before = (Long) bytes.invoke(thread);
         for (int i = 0; i < ROUNDS; i++) {
             everyCall(x, text);
         }
-        long made = thread.getCurrentThreadAllocatedBytes() - before;
-        check.holds("bytes made in " + ROUNDS + " rounds of calls: " + made, made < ROUNDS);
+        long made = (Long) bytes.invoke(thread) - before;
+        check.holds("bytes made in " + ROUNDS + " rounds of calls: " + made, made < LEAST_OBJECT * ROUNDS);
     }
 
     private static int everyCall(CloudLaundry x, char[] text) {
