@@ -353,7 +353,7 @@ public final class CloudLaundry {
         if (hands < 1 || hands > HANDS || hours < 0 || hours > HOURS_TAKEN) {
             return OUTSIDE;
         }
-        if (seenCount >= SEEN) {
+        if (seenCount < 0 || seenCount >= SEEN) {
             return FULL;
         }
         seenCloud[seenCount] = cloud;
@@ -545,7 +545,7 @@ public final class CloudLaundry {
 
     /** The day as it is becomes the latest that undo can bring back; the oldest row is used again when all are taken. */
     private void remember() {
-        if (pasts >= UNDOS) {
+        if (pasts < 0 || pasts >= UNDOS) {
             Day oldest = past[0];
             for (int i = 1; i < UNDOS; i++) {
                 past[i - 1] = past[i];
@@ -1226,12 +1226,25 @@ public final class CloudLaundry {
         private void sortByDue() {
             for (int i = 0; i < day.cloudCount && i < CLOUDS; i++) {
                 int place = i;
-                while (place > 0 && day.clouds[byDue[place - 1]].due > day.clouds[i].due) {
+                while (place > 0 && dueOf(byDue[place - 1]) > dueOf(i)) {
                     byDue[place] = byDue[place - 1];
                     place--;
                 }
                 byDue[place] = i;
             }
+        }
+
+        private int dueOf(int cloud) {
+            Cloud one = day.cloudAt(cloud);
+            return one == null ? NONE : one.due;
+        }
+
+        private int hoursOf(int w, int cloud) {
+            return w < 0 || w >= WASHERS || cloud < 0 || cloud >= CLOUDS ? NONE : hours[w][cloud];
+        }
+
+        private boolean isHers(int w, int cloud) {
+            return w >= 0 && w < WASHERS && (sets[w] >> cloud & 1) == 1;
         }
 
         /** Tries all ways for this cloud and those behind it; the clouds ahead of it are shared out already. */
@@ -1264,9 +1277,10 @@ public final class CloudLaundry {
             int now = day.hour;
             for (int i = 0; i < day.cloudCount && i < CLOUDS; i++) {
                 int c = byDue[i];
-                if ((sets[w] >> c & 1) == 1) {
-                    now += hours[w][c];
-                    if (hours[w][c] == NONE || now > day.clouds[c].due) {
+                if (isHers(w, c)) {
+                    int taken = hoursOf(w, c);
+                    now += taken;
+                    if (taken == NONE || now > dueOf(c)) {
                         return false;
                     }
                 }
@@ -1296,7 +1310,7 @@ public final class CloudLaundry {
         }
 
         boolean hasPegs(int from, int n) {
-            return from >= 0 && n >= 0 && n <= pegs && from <= pegs - n;
+            return from >= 0 && n >= 0 && from <= Math.min(pegs, PEGS) - n;
         }
 
         boolean mayHold(int thing) {

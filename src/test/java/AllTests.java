@@ -7,6 +7,7 @@ public final class AllTests {
         Check check = new Check();
         FaceTest.run(check);
         LanguageTest.run(check);
+        ReadmeTest.run(check);
         TextTest.run(check);
         CloudsTest.run(check);
         DoneTest.run(check);
